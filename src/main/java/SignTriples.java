@@ -563,7 +563,10 @@ public final class SignTriples {
             int turned = numberOf(p, 0) * minor(q, r, 1, 2)
                     - numberOf(p, 1) * minor(q, r, 0, 2)
                     + numberOf(p, 2) * minor(q, r, 0, 1);
-            return Integer.compare(turned, 0);
+            if (turned == 0) {
+                return 0;
+            }
+            return turned > 0 ? 1 : -1;
         }
 
         private int minor(int q, int r, int i, int j) {
@@ -1030,16 +1033,21 @@ public final class SignTriples {
         }
     }
 
-    /** Vectors of one kind, from the greatest. */
+    /** Vectors of one kind, each one once: in the order in which they came until they are sorted. */
     private static final class VectorRow {
         /** As many as there can be of six elements. */
         private static final int MOST = 729;
+        private static final int WORDS = 128;
+        private static final int WORD = 32;
 
         private final int[] keys;
+        /** A bit to each key that is in the row. */
+        private final int[] words;
         private int length;
 
         VectorRow() {
             keys = new int[MOST];
+            words = new int[WORDS];
         }
 
         int length() {
@@ -1056,12 +1064,28 @@ public final class SignTriples {
 
         void clear() {
             length = 0;
+            Arrays.fill(words, 0);
         }
 
-        void append(int key) {
-            if (length < MOST) {
+        void insert(int key) {
+            int bit = 1 << key % WORD;
+            if ((words[key / WORD] & bit) == 0 && length < MOST) {
+                words[key / WORD] |= bit;
                 keys[length] = key;
                 length++;
+            }
+        }
+
+        /** From the greatest. */
+        void sort() {
+            int k = 0;
+            for (int w = WORDS - 1; w >= 0; w--) {
+                for (int bit = WORD - 1; bit >= 0 && words[w] != 0; bit--) {
+                    if ((words[w] & 1 << bit) != 0 && k < length) {
+                        keys[k] = w * WORD + bit;
+                        k++;
+                    }
+                }
             }
         }
 
@@ -1072,41 +1096,6 @@ public final class SignTriples {
                 }
             }
             return NONE;
-        }
-    }
-
-    /** A set of vectors, by their keys. */
-    private static final class KeySet {
-        private static final int WORDS = 128;
-        private static final int WORD = 32;
-
-        private final int[] words;
-
-        KeySet() {
-            words = new int[WORDS];
-        }
-
-        void clear() {
-            Arrays.fill(words, 0);
-        }
-
-        boolean holds(int key) {
-            return (words[key / WORD] & 1 << key % WORD) != 0;
-        }
-
-        void insert(int key) {
-            words[key / WORD] |= 1 << key % WORD;
-        }
-
-        void listInto(VectorRow row) {
-            row.clear();
-            for (int w = WORDS - 1; w >= 0; w--) {
-                for (int bit = WORD - 1; bit >= 0 && words[w] != 0; bit--) {
-                    if ((words[w] & 1 << bit) != 0) {
-                        row.append(w * WORD + bit);
-                    }
-                }
-            }
         }
     }
 
@@ -1237,12 +1226,10 @@ public final class SignTriples {
         }
     }
 
-    /** The vectors of each kind. */
+    /** The vectors of each kind, each found once and kept until they are forgotten. */
     private static final class Vectors {
         private final VectorRow[] kinds;
         private final boolean[] isKnown;
-        private final KeySet marks;
-        private final VectorRow found;
 
         Vectors() {
             kinds = new VectorRow[KINDS];
@@ -1250,8 +1237,6 @@ public final class SignTriples {
             for (int kind = 0; kind < KINDS; kind++) {
                 kinds[kind] = new VectorRow();
             }
-            marks = new KeySet();
-            found = new VectorRow();
         }
 
         void forget() {
@@ -1261,18 +1246,20 @@ public final class SignTriples {
         }
 
         VectorRow cocircuits(Arrangement x) {
-            if (!isKnown[COCIRCUITS]) {
-                marks.clear();
-                int zero = Key.zero(x.size());
-                for (int a = 0; a < x.size(); a++) {
-                    for (int b = a + 1; b < x.size(); b++) {
-                        markBoth(cocircuit(x, a, b), zero);
-                    }
-                }
-                marks.listInto(kinds[COCIRCUITS]);
-                isKnown[COCIRCUITS] = true;
+            VectorRow row = kinds[COCIRCUITS];
+            if (isKnown[COCIRCUITS]) {
+                return row;
             }
-            return kinds[COCIRCUITS];
+            row.clear();
+            int zero = Key.zero(x.size());
+            for (int a = 0; a < x.size(); a++) {
+                for (int b = a + 1; b < x.size(); b++) {
+                    insertBoth(row, cocircuit(x, a, b), zero);
+                }
+            }
+            row.sort();
+            isKnown[COCIRCUITS] = true;
+            return row;
         }
 
         private static int cocircuit(Arrangement x, int a, int b) {
@@ -1284,22 +1271,24 @@ public final class SignTriples {
         }
 
         VectorRow circuits(Arrangement x) {
-            if (!isKnown[CIRCUITS]) {
-                marks.clear();
-                int zero = Key.zero(x.size());
-                for (int a = 0; a < x.size(); a++) {
-                    for (int b = a + 1; b < x.size(); b++) {
-                        for (int c = b + 1; c < x.size(); c++) {
-                            for (int d = c + 1; d < x.size(); d++) {
-                                markBoth(circuit(x, a, b, c, d), zero);
-                            }
+            VectorRow row = kinds[CIRCUITS];
+            if (isKnown[CIRCUITS]) {
+                return row;
+            }
+            row.clear();
+            int zero = Key.zero(x.size());
+            for (int a = 0; a < x.size(); a++) {
+                for (int b = a + 1; b < x.size(); b++) {
+                    for (int c = b + 1; c < x.size(); c++) {
+                        for (int d = c + 1; d < x.size(); d++) {
+                            insertBoth(row, circuit(x, a, b, c, d), zero);
                         }
                     }
                 }
-                marks.listInto(kinds[CIRCUITS]);
-                isKnown[CIRCUITS] = true;
             }
-            return kinds[CIRCUITS];
+            row.sort();
+            isKnown[CIRCUITS] = true;
+            return row;
         }
 
         private static int circuit(Arrangement x, int a, int b, int c, int d) {
@@ -1320,10 +1309,10 @@ public final class SignTriples {
             return key;
         }
 
-        private void markBoth(int key, int zero) {
+        private static void insertBoth(VectorRow row, int key, int zero) {
             if (key != zero) {
-                marks.insert(key);
-                marks.insert(Key.opposite(key, zero));
+                row.insert(key);
+                row.insert(Key.opposite(key, zero));
             }
         }
 
@@ -1332,45 +1321,41 @@ public final class SignTriples {
          * so each covector needs to be composed with the cocircuits alone.
          */
         VectorRow covectors(Arrangement x) {
-            if (!isKnown[COVECTORS]) {
-                VectorRow cocircuits = cocircuits(x);
-                marks.clear();
-                found.clear();
-                discover(Key.zero(x.size()));
-                for (int i = 0; i < found.length() && i < VectorRow.MOST; i++) {
-                    for (int c = 0; c < cocircuits.length(); c++) {
-                        discover(Key.composed(found.at(i), cocircuits.at(c)));
-                    }
+            VectorRow row = kinds[COVECTORS];
+            if (isKnown[COVECTORS]) {
+                return row;
+            }
+            VectorRow cocircuits = cocircuits(x);
+            row.clear();
+            row.insert(Key.zero(x.size()));
+            for (int i = 0; i < row.length() && i < VectorRow.MOST; i++) {
+                for (int c = 0; c < cocircuits.length(); c++) {
+                    row.insert(Key.composed(row.at(i), cocircuits.at(c)));
                 }
-                marks.listInto(kinds[COVECTORS]);
-                isKnown[COVECTORS] = true;
             }
-            return kinds[COVECTORS];
-        }
-
-        private void discover(int key) {
-            if (!marks.holds(key)) {
-                marks.insert(key);
-                found.append(key);
-            }
+            row.sort();
+            isKnown[COVECTORS] = true;
+            return row;
         }
 
         VectorRow topes(Arrangement x) {
-            if (!isKnown[TOPES]) {
-                VectorRow covectors = covectors(x);
-                int fewest = x.size();
-                for (int k = 0; k < covectors.length(); k++) {
-                    fewest = Math.min(fewest, Key.zeros(covectors.at(k)));
-                }
-                kinds[TOPES].clear();
-                for (int k = 0; k < covectors.length(); k++) {
-                    if (Key.zeros(covectors.at(k)) == fewest) {
-                        kinds[TOPES].append(covectors.at(k));
-                    }
-                }
-                isKnown[TOPES] = true;
+            VectorRow row = kinds[TOPES];
+            if (isKnown[TOPES]) {
+                return row;
             }
-            return kinds[TOPES];
+            VectorRow covectors = covectors(x);
+            int fewest = x.size();
+            for (int k = 0; k < covectors.length(); k++) {
+                fewest = Math.min(fewest, Key.zeros(covectors.at(k)));
+            }
+            row.clear();
+            for (int k = 0; k < covectors.length(); k++) {
+                if (Key.zeros(covectors.at(k)) == fewest) {
+                    row.insert(covectors.at(k));
+                }
+            }
+            isKnown[TOPES] = true;
+            return row;
         }
     }
 
