@@ -29,6 +29,7 @@ public final class PromisesTest {
         promise20();
         promise21();
         promise21Order();
+        promise21Anew();
         promise22();
         promise23();
         promise24();
@@ -227,6 +228,25 @@ public final class PromisesTest {
         faultOf("point -0 1 2 3", 6);
         faultOf("point 0 1 2 + 3", 12);
         faultOf("point 012 3", 6);
+        faultOf("point", 5);
+        faultOf("point;draw", 5);
+        faultOf("point 0", 7);
+        faultOf("point 0;draw", 7);
+        faultOf("point 0 1", 9);
+        faultOf("point 0 1;draw", 9);
+        faultOf("point 0 1 2;draw", 11);
+        faultOf("swap", 4);
+        faultOf("swap;draw", 4);
+        faultOf("swap 1;draw", 6);
+        faultOf("flip;draw", 4);
+        faultOf("signs;draw", 5);
+        faultOf("signs 3;draw", 7);
+        faultOf("draw;z", 5);
+        faultOf("drawz", 0);
+        faultOf("draw{", 4);
+        faultOf("draw`", 4);
+        faultOf("flip 1:", 6);
+        faultOf("flip 1/", 6);
         faultOf("sign 3 u", 0);
         faultOf("draw;flip 3;swap", 10);
     }
@@ -394,6 +414,8 @@ public final class PromisesTest {
         due("set 1 1 0 0", x.set(1, 1, 0, 0), SignTriples.UNKNOWN);
         due("set 1 0 1 0", x.set(1, 0, 1, 0), SignTriples.UNKNOWN);
         due("set 0 1 4 0", x.set(0, 1, 4, 0), SignTriples.UNKNOWN);
+        due("set -1 1 2 0", x.set(-1, 1, 2, 0), SignTriples.UNKNOWN);
+        due("set 0 MIN 2 0", x.set(0, MIN, 2, 0), SignTriples.UNKNOWN);
         due("set 0 1 4 5", x.set(0, 1, 4, 5), SignTriples.UNKNOWN);
         due("set 0 1 2 2", x.set(0, 1, 2, 2), SignTriples.OUTSIDE);
         due("set 0 1 2 -2", x.set(0, 1, 2, -2), SignTriples.OUTSIDE);
@@ -457,9 +479,36 @@ public final class PromisesTest {
         due("swap -1 0", x.swap(-1, 0), SignTriples.UNKNOWN);
         due("swap MIN MIN", x.swap(MIN, MIN), SignTriples.UNKNOWN);
         due("undoable", x.count(6), 3);
+        SignTriples six = told("signs 6 uodduodduodduodduodd");
+        String was = signs(six);
+        String becomes = signsSwapped("signs 6 uodduodduodduodduodd", 1, 4);
+        int unlike = 0;
+        for (int t = 0; t < 20; t++) {
+            unlike += was.charAt(t) == becomes.charAt(t) ? 0 : 1;
+        }
+        due("swap 1 4", six.swap(1, 4), unlike);
+        dues("signs", signs(six), becomes);
         SignTriples y = told("signs 3 o");
         due("swap of nothing", y.swap(0, 1), 0);
         due("undoable", y.count(6), 1);
+    }
+
+    /** The signs by the words of the call: each element's number changed, each triple looked up as it was. */
+    private static String signsSwapped(String text, int e, int f) {
+        SignTriples was = told(text);
+        StringBuilder all = new StringBuilder();
+        for (int a = 0; a < was.count(0); a++) {
+            for (int b = a + 1; b < was.count(0); b++) {
+                for (int c = b + 1; c < was.count(0); c++) {
+                    all.append("dou".charAt(was.sign(other(a, e, f), other(b, e, f), other(c, e, f)) + 1));
+                }
+            }
+        }
+        return all.toString();
+    }
+
+    private static int other(int a, int e, int f) {
+        return a == e ? f : a == f ? e : a;
     }
 
     private static void promise13() {
@@ -642,6 +691,11 @@ public final class PromisesTest {
         due("exchange", bad.is(0), 1);
         due("a five that is not good", bad.is(1), 0);
         due("drawn", bad.is(2), 0);
+        for (int t = 0; t < 20; t++) {
+            String word = "uuuuuuuuuuuuuuuuuuuu".substring(0, t) + "o" + "uuuuuuuuuuuuuuuuuuuu".substring(t + 1);
+            due("drawn but one", told("signs 6 " + word).is(2), 0);
+            due("all bases but one", told("signs 6 " + word).is(3), 0);
+        }
         due("all bases", bad.is(3), 1);
         SignTriples flat = told("signs 4 uuuu;point 3 0 1 1;draw");
         due("drawn", flat.is(2), 1);
@@ -696,11 +750,54 @@ public final class PromisesTest {
         SignTriples pair = told("signs 4 uuoo");
         dues("cocircuits with a pair", vectors(pair, 0), "+000 0+00 00++ 00-- 0-00 -000 ");
         dues("a pair's circuit", vectors(pair, 1), "00+- 00-+ ");
+        SignTriples five = told("signs 5 uuuuuuuuuu");
+        dues("circuits of five", vectors(five, 1),
+            "+0-+- +-+0- +-+-0 +-0+- 0+-+- 0-+-+ -+0-+ -+-+0 -+-0+ -0+-+ ");
         due("seen at once after a deed", pair.flip(3), 1);
         dues("cocircuits, one flipped", vectors(pair, 0), "+000 0+00 00+- 00-+ 0-00 -000 ");
         dues("a pair's circuit, one flipped", vectors(pair, 1), "00++ 00-- ");
         pair.undo();
         dues("cocircuits, undone", vectors(pair, 0), "+000 0+00 00++ 00-- 0-00 -000 ");
+    }
+
+    /** What was found is found anew, whatever the signs became others by. */
+    private static void promise21Anew() {
+        SignTriples x = told("signs 4 uuuu");
+        x.keep(0);
+        for (int kind = 0; kind < 4; kind++) {
+            findAll(x, 14, 4, 75);
+            x.set(1, 2, 3, 0);
+            findAll(x, 12, 3, x.extensions());
+            x.undo();
+            findAll(x, 14, 4, 75);
+            x.drop(kind);
+            findAll(x, 8, 1, 27);
+            x.add(1, 1, 1);
+            findAll(x, x.vector(3, -1, 0), x.mutation(-1), x.extensions());
+            x.back(0);
+            findAll(x, 14, 4, 75);
+            x.place(1, 1, 0, 0);
+            x.draw();
+            findAll(x, 8, 2, x.extensions());
+            x.back(0);
+            findAll(x, 14, 4, 75);
+        }
+        x.drop(0);
+        findAll(x, 8, 1, 27);
+        write(x, "signs 4 uuuu");
+        x.tell();
+        findAll(x, 14, 4, 75);
+        write(x, "signs 3 o");
+        x.tell();
+        findAll(x, SignTriples.NOT, SignTriples.NOT, SignTriples.NOT);
+    }
+
+    private static void findAll(SignTriples x, int topes, int mutations, int extensions) {
+        due("topes, after others", x.vector(3, -1, 0), topes);
+        due("mutations, after others", x.mutation(-1), mutations);
+        due("extensions, after others", x.extensions(), extensions);
+        due("farthest, after others", topes < 0 ? topes : x.between(0, topes - 1, 2) > 2 ? topes : 0, topes);
+        due("orderly, after others", x.is(1), topes < 0 ? 0 : 1);
     }
 
     private static void promise22() {
@@ -928,7 +1025,12 @@ public final class PromisesTest {
         due("of cocircuits", x.find(0, 0, 0), SignTriples.NONE);
         due("of circuits", x.find(0, 0, 1), SignTriples.NONE);
         due("of cocircuits", x.find(0, 1, 0), 7);
-        due("empty", x.find(0, 2, 0), SignTriples.EMPTY);
+        x.lay(0, 2, 0, 0);
+        due("the first one", x.find(0, 2, 0), 0);
+        x.lay(0, 2, 0, 11);
+        due("the last one", x.find(0, 2, 0), 11);
+        x.box(2, 0, 1);
+        due("empty", x.find(2, 0, 0), SignTriples.EMPTY);
         due("no place", x.find(0, 3, 0), SignTriples.INDEX);
         due("no place", x.find(0, MIN, 0), SignTriples.INDEX);
         due("kind 4", x.find(1, 0, 4), SignTriples.OUTSIDE);
