@@ -63,7 +63,8 @@ public final class RandomRunsTest {
 
         void check(String call, int got, int due) {
             calls.add(call + " answered " + got);
-            if (got != due && !differs) {
+            // What a 513th call answers is free.
+            if (got != due && !differs && calls.size() <= CALLS) {
                 differs = true;
                 wrong++;
                 System.out.println("run " + number + ", call " + calls.size() + ": " + call + " answered " + got + ", due is " + due);
