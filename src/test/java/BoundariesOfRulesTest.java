@@ -12,6 +12,9 @@ public final class BoundariesOfRulesTest {
     private static final int TOPES = 3;
     /** Exchange holds, and of all fives that one alone is not good, whose element a is the word's place here. */
     private static final String[] ONE_BAD_FIVE = {"uuuuouoooo", "uuuooououo", "uoouuouoou", "ouououuoou", "oououuouou"};
+    /** All is orderly; with the sign of the triple of that number turned, that one five alone is not good. */
+    private static final String[] ONE_BAD_FIVE_IF_TURNED = {"uuuuuuoooo", "uuuooouuuo", "uoouuouuou", "ouououuouu", "oououuouuu"};
+    private static final int[] TURNED = {1, 1, 3, 3, 4};
     /** Exchange fails at one element x alone, which is the word's place here, of one ordered pair of bases. */
     private static final String[] ONE_BAD_EXCHANGE = {"uuuooouooo", "uuuuoooooo", "uuouuooooo", "uuououoooo", "uououuoooo"};
 
@@ -91,6 +94,20 @@ public final class BoundariesOfRulesTest {
         return all;
     }
 
+    /** What can be found of all signs there are, in few calls. */
+    private static String found(SignTriples x) {
+        StringBuilder all = new StringBuilder();
+        for (int what = 2; what <= 5; what++) {
+            all.append(x.count(what)).append(' ');
+        }
+        all.append(x.is(0)).append(x.is(1)).append(x.is(3));
+        for (int kind = 0; kind <= 3; kind++) {
+            all.append(' ').append(x.vector(kind, -1, 0)).append(' ').append(x.vector(kind, 1, 2));
+        }
+        all.append(" next ").append(x.beside(0)).append(x.beside(7)).append(x.between(0, 7, 1)).append(x.between(0, 7, 2));
+        return all.append(" foretold ").append(x.mutation(-1)).append(' ').append(x.extensions()).toString();
+    }
+
     private static String opposite(String vector) {
         return vector.replace('+', 'x').replace('-', '+').replace('x', '-');
     }
@@ -143,6 +160,22 @@ public final class BoundariesOfRulesTest {
                 Dues.due("a sixth, the last", sixWithLoop(word, true).is(0), 0);
             }
             Dues.due("two far from each other", Made.told("signs 6 uooooooooooooooooood").is(0), 0);
+        }
+
+        static void exchangeIsForTheFirstAndTheLastBases() {
+            Dues.sentence("for any two BASES A, B");
+            Dues.due("A the first, B the last", five("uuuoouoooo").is(0), 0);
+            Dues.due("A the last, B the first", five("uuououoooo").is(0), 0);
+        }
+
+        static void exchangeTakesAnElementOfBAlone() {
+            Dues.sentence("there is one y of B, not of A, so that A, y in place of x, is a BASE");
+            // Any two elements are in just two of these bases, so for each A and x there is one y, but not of each B.
+            SignTriples x = Made.told("signs 6 uuooouoouuoouuouuuoo");
+            Dues.due("bases", x.count(2), 10);
+            Dues.due("loops", x.count(4), 0);
+            Dues.due("pairs", x.count(5), 0);
+            Dues.due("exchange", x.is(0), 0);
         }
 
         static void exchangeIsOfBasesNotOfSigns() {
@@ -667,6 +700,17 @@ public final class BoundariesOfRulesTest {
             }
         }
 
+        static void aMutationLeavesEachFiveGood() {
+            Dues.sentence("MUTATION: a BASE so that, its SIGN alone times -1, all would be ORDERLY");
+            for (int a = 0; a < 5; a++) {
+                SignTriples x = five(ONE_BAD_FIVE_IF_TURNED[a]);
+                Dues.due("orderly", x.is(1), 1);
+                Dues.due("turned", x.mutation(TURNED[a]), 0);
+                SignTriples six = sixWithLoop(ONE_BAD_FIVE_IF_TURNED[a], false);
+                Dues.due("turned, of six", six.mutation(10 + TURNED[a]), 0);
+            }
+        }
+
         static void mutationsHaveNumbersOfTriples() {
             Dues.sentence("1 a TRIPLE (by its number) is a MUTATION, 0; how many are (triple -1). NOT: not ORDERLY; UNKNOWN.");
             for (int n = 3; n <= 6; n++) {
@@ -727,6 +771,57 @@ public final class BoundariesOfRulesTest {
                 }
                 Dues.due("without a zero", x.extensions(), 75);
             }
+        }
+
+        static void aNewObjectHasFindings() {
+            Dues.sentence("Three ELEMENTS, a SIGN 1.");
+            Dues.due("mutations", new SignTriples().mutation(-1), 1);
+            Dues.due("mutation 0", new SignTriples().mutation(0), 1);
+            Dues.due("extensions", new SignTriples().extensions(), 27);
+            Dues.due("beside", new SignTriples().beside(7), 3);
+            Dues.due("steps", new SignTriples().between(0, 7, 2), 3);
+            Dues.due("topes", new SignTriples().vector(TOPES, -1, 0), 8);
+            Dues.due("exchange", new SignTriples().is(0), 1);
+            Dues.due("orderly", new SignTriples().is(1), 1);
+            Dues.due("loops", new SignTriples().count(4), 0);
+            Dues.due("pairs", new SignTriples().count(5), 0);
+        }
+
+        static void whatIsFoundIsOfTheSignsThatThereAre() {
+            Dues.sentence("the SIGNS that there are staying");
+            SignTriples x = new SignTriples();
+            String[] words = {"signs 4 uuuu", "signs 4 uuoo", "signs 4 oooo", "signs 6 uuuuuuuuuuuuuuuuuuuu", "signs 4 uooo",
+                "signs 5 uuuuouoooo", "signs 5 uuuoouoooo", "signs 3 u", "signs 4 ouuu", "signs 6 uooooooooooooooooood",
+                "signs 3 o", "signs 4 uuoo", "signs 4 uuuu"};
+            for (String word : words) {
+                Made.write(x, word);
+                x.tell();
+                Dues.due("found of " + word, found(x), found(Made.told(word)));
+            }
+        }
+
+        static void whatIsFoundBehindEachDeed() {
+            Dues.sentence("the SIGNS that there are staying");
+            SignTriples x = Made.allUp(4);
+            x.keep(0);
+            found(x);
+            x.set(1, 2, 3, 0);
+            Dues.due("set", found(x), found(Made.told("signs 4 uuuo")));
+            x.set(0, 2, 3, 0);
+            x.flip(2);
+            Dues.due("flip", found(x), found(Made.told("signs 4 duoo")));
+            x.swap(0, 3);
+            Dues.due("swap", found(x), found(Made.told("signs 4 " + Made.signs(x))));
+            x.add(1, 2, 4);
+            Dues.due("add", found(x), found(Made.told("signs 5 " + Made.signs(x))));
+            x.drop(0);
+            Dues.due("drop", found(x), found(Made.told("signs 4 " + Made.signs(x))));
+            x.draw();
+            Dues.due("draw", found(x), found(Made.told("signs 4 " + Made.signs(x))));
+            x.undo();
+            Dues.due("undo", found(x), found(Made.told("signs 4 " + Made.signs(x))));
+            x.back(0);
+            Dues.due("back", found(x), found(Made.told("signs 4 uuuu")));
         }
 
         static void pointsDoNotMatterForExtensions() {

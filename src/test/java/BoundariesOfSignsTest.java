@@ -881,6 +881,34 @@ public final class BoundariesOfSignsTest {
             Dues.due("sign", x.sign(0, 1, 2), 1);
         }
 
+        static void whatIsKeptIsNotChangedByAnythingElse() {
+            Dues.sentence("They are as they were kept, nothing can be undone: how many ELEMENTS.");
+            SignTriples x = Made.told("signs 4 udou");
+            x.keep(0);
+            x.place(0, 9, 9, 9);
+            x.keep(1);
+            x.set(0, 1, 2, 0);
+            x.flip(1);
+            x.swap(0, 3);
+            x.add(1, 1, 1);
+            x.drop(2);
+            x.draw();
+            x.undo();
+            x.write('a');
+            x.tell();
+            x.erase();
+            x.box(0, 0, 1);
+            x.lay(0, 0, 0, 0);
+            x.mutation(-1);
+            x.extensions();
+            Dues.due("back 1", x.back(1), 4);
+            Dues.due("arrangement", Made.arrangement(x), "udou 9 9 9;1 1 1;1 2 4;1 3 9;");
+            Dues.due("back 0", x.back(0), 4);
+            Dues.due("arrangement", Made.arrangement(x), "udou 1 0 0;1 1 1;1 2 4;1 3 9;");
+            Dues.due("back 1 again", x.back(1), 4);
+            Dues.due("point", Made.pointOf(x, 0), "9 9 9");
+        }
+
         static void keptAnewIsTheLatest() {
             Dues.sentence("ELEMENTS, SIGNS, POINTS are kept (k 0, 1)");
             SignTriples x = new SignTriples();

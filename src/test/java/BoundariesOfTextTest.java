@@ -59,7 +59,7 @@ public final class BoundariesOfTextTest {
         }
 
         static void writeAtFullChangesNothing() {
-            Dues.sentence("Refused, and nothing changes: FULL");
+            Dues.sentence("Refused, and nothing changes");
             SignTriples x = new SignTriples();
             fill(x, "draw", 200);
             x.write('x');
@@ -428,6 +428,9 @@ public final class BoundariesOfTextTest {
             faultOf("point 0 -   100 0 0", 12);
             faultOf("point 0 --1 0 0", 9);
             faultOf("point 0 - - 1 0 0", 10);
+            faultOf("point 0 0 --1", 11);
+            faultOf("point 0 0 0 --1", 13);
+            faultOf("point 0 --1", 9);
             faultOf("point 0 0 0 -", 13);
             faultOf("point 0 0 0 -;", 13);
             faultOf("point 0 0 0 - ", 14);
@@ -582,6 +585,33 @@ public final class BoundariesOfTextTest {
             }
             faultOf("draw;", 5);
             faultOf("draw; ", 6);
+        }
+
+        static void aTextOf200LettersThatEndsTooSoon() {
+            Dues.sentence("or at the end, if it comes too soon");
+            String[] begun = {"signs", "signs 4", "point", "point 0", "point 0 -", "point 0 1", "point 0 1 -", "point 0 1 2",
+                "point 0 1 2 -", "flip", "swap", "swap 0", "draw;", ""};
+            for (String text : begun) {
+                faultOf(" ".repeat(200 - text.length()) + text, 200);
+            }
+            String[] whole = {"signs 3 u", "signs 4 uuuu", "point 0 1 2 3", "point 0 1 2 -99", "flip 0", "swap 0 1", "draw"};
+            for (String text : whole) {
+                faultOf(" ".repeat(200 - text.length()) + text, NONE);
+            }
+        }
+
+        static void lettersOfALongerTextBeforeAreNotRead() {
+            Dues.sentence("or at the end, if it comes too soon");
+            String[] begun = {"signs", "signs 4", "point", "point 0", "point 0 1", "point 0 1 2", "flip", "swap", "swap 0", ""};
+            String[] before = {"-", "0", "u", ";", " ", "- 1 - 1 - 1", "uuuu", ";draw"};
+            for (String text : begun) {
+                for (String old : before) {
+                    SignTriples x = Made.written(text + old + old);
+                    x.erase();
+                    Made.write(x, text);
+                    faultIn(x, text, text.length());
+                }
+            }
         }
 
         static void aClauseThatASemicolonEndsTooSoonHasItsFaultThere() {
